@@ -877,7 +877,7 @@ public final class Termgrid {
             return letters;
         }
 
-        /** Finds the possible slots in each room; in others, as the limit tells, there are none. */
+        /** Finds the possible slots in each room; rooms that there are not have none. */
         void findPossibleSlots(ArrayList<Room> rooms) {
             Arrays.fill(possibleSlots, 0);
             for (int i = 0; i < rooms.size() && i < possibleSlots.length; i++) {
@@ -1030,10 +1030,11 @@ public final class Termgrid {
             int untried = set;
             for (int turn = 0; turn < MOST_LESSONS; turn++) {
                 Lesson lesson = findHardest(untried);
-                if (lesson != null) {
-                    untried &= ~(1 << lesson.number);
-                    putAt(lesson, findCheapest(lesson));
+                if (lesson == null) {
+                    break;
                 }
+                untried &= ~(1 << lesson.number);
+                putAt(lesson, findCheapest(lesson));
             }
             return Integer.bitCount(set & unplaced());
         }
@@ -1337,9 +1338,11 @@ public final class Termgrid {
         private boolean throwOthersOut(Table table, Lesson lesson) {
             countOthersInTheWay(table, lesson);
             int best = NOWHERE;
+            int fewest = HOPELESS;
             for (int place = 0; place < othersInTheWay.length; place++) {
-                if (othersInTheWay[place] < (best == NOWHERE ? HOPELESS : at(othersInTheWay, best))) {
+                if (othersInTheWay[place] < fewest) {
                     best = place;
+                    fewest = othersInTheWay[place];
                 }
             }
             if (best == NOWHERE) {

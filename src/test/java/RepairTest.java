@@ -14,6 +14,7 @@ public final class RepairTest {
         illHardestFirst();
         close();
         closeWithPastLessons();
+        closeWithAllLessons();
         open();
         passDay();
         nextWeek();
@@ -140,6 +141,19 @@ public final class RepairTest {
         Check.due("placeOf(0), past", x.placeOf(0), 0);
         Check.due("placeOf(2), past", x.placeOf(2), 16);
         Check.refused("placeOf(1)", ELEMENT, () -> x.placeOf(1));
+    }
+
+    private static void closeWithAllLessons() {
+        Termgrid x = school(0);
+        x.addRoom(0, 0, 20);
+        for (int i = 0; i < 16; i++) {
+            x.addLesson(0, 0, 0, 1, i % 10);
+            x.place(i, i, 0);
+        }
+        Check.due("close(0)", x.close(0), 0);
+        for (int i = 0; i < 16; i++) {
+            Check.due("placeOf(" + i + ") is in the room 1", x.placeOf(i) % 8, 1);
+        }
     }
 
     private static void open() {
