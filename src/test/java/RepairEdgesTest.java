@@ -247,6 +247,11 @@ public final class RepairEdgesTest {
         for (int week = 1; week <= 20; week++) {
             days(x, 4).due("nextWeek()", week).due("today()", 0);
         }
+        Termgrid grid = new Termgrid();
+        for (int call = 1; call <= 512; call++) {
+            int answer = call % 5 == 0 ? grid.nextWeek() : grid.passDay();
+            Check.due("the call " + call + " of 512", answer, call % 5 == 0 ? call / 5 : call % 5);
+        }
     }
 
     private static void nextWeekBooksLateHours() {
