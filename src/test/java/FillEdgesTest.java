@@ -103,7 +103,10 @@ public final class FillEdgesTest {
         x.due("hardest()", 2).due("possible(2)", 0).due("isSound()", true);
     }
 
-    /** Three lessons that throw one another out in turn, so that the tables come again after three times. */
+    /**
+     * Three lessons that throw one another out in turn, so that the tables come again after three times. It was
+     * found by search: with one or two times more or less than ten, the table would be another one.
+     */
     private static Scene threeInTurn() {
         Scene x = new Scene("addRoom(1, 0, 20)", "addRoom(0, 0, 20)", "addRoom(0, 0, 20)");
         for (int i = 0; i < 3; i++) {

@@ -81,7 +81,7 @@ public final class ImproveEdgesTest {
         places(x, 8, 32);
     }
 
-    /** In nineteen steps the wish is not yet met; in the twentieth it is. */
+    /** Found by search: in nineteen steps the wish is not yet met; in the twentieth it is. */
     private static void twentySteps() {
         Scene x = new Scene("addRoom(0, 0, 20)", "addTeacher(28)", "addGroup(20)", "addLesson(0, 0, 0, 2, 1)");
         x.then("addLesson(0, 0, 0, 2, 0)", "addLesson(0, 0, 0, 1, 2)", "addLesson(0, 0, 0, 2, 2)", "setWish(0, 2, 1)", "fill()");
